@@ -654,6 +654,10 @@ final class Plain {
         if (!even(slot) || slots[slot].n > 4 || what < 0 || what > 4) {
             return NONE;
         }
+        return soughtWays(slot)[what];
+    }
+
+    int[] soughtWays(int slot) {
         int[] found = {1000, 0, 0, 0, 0};
         for (int code = 0; code < 256; code++) {
             int[] rules = {code / 64, code / 16 % 4, code / 4 % 4, code % 4};
@@ -662,7 +666,7 @@ final class Plain {
                 found = new int[] {count, rules[0], rules[1], rules[2], rules[3]};
             }
         }
-        return found[what];
+        return found;
     }
 
     int rounded(int slot, int row, int column) {

@@ -214,9 +214,27 @@ public final class PromisesTest {
         CHECK.due("999999990000000 over 10000000", x.mix(1, 1, 1, 0, 0, 100, 2), true);
         hasCells(x, 2, 1, 99999999);
         CHECK.due("1099999989000000 over 11000000", x.mix(1, 1, 1, 0, 0, 110, 2), false);
+        sumBounds(x);
+        Check.tell(x, 0, "1/100000;");
         CHECK.due("below 1000000", x.mix(0, 1, 10, 0, 0, 1, 2), false);
         CHECK.due("below 500000", x.mix(0, 1, 5, 0, 0, 1, 2), true);
         hasCells(x, 2, 500000, 1);
+    }
+
+    /** 78125000 over 12800000 is just 1000000000000000; 3125 by 4096 times 4096 by 3125 is 1. */
+    private static void sumBounds(EvenTables x) {
+        Check.tell(x, 2, "4096/3125;");
+        Great.tell(x, 0, new long[][] {{78125000}});
+        CHECK.due("just the greatest sum", x.mix(0, 1, 1, 2, 0, 4096, 3), true);
+        hasCells(x, 3, 1, 78125000);
+        CHECK.due("two parts of a sum above", x.mix(0, 1, 1, 2, 3125, 4096, 3), false);
+        CHECK.due("two parts of a sum above", x.mix(2, 3125, 4096, 0, 1, 1, 3), false);
+        Great.tell(x, 0, new long[][] {{78125001}});
+        CHECK.due("above", x.mix(0, 1, 1, 2, 0, 4096, 3), false);
+        CHECK.due("above", x.mix(2, 0, 4096, 0, 1, 1, 3), false);
+        Great.tell(x, 0, new long[][] {{78124999}});
+        CHECK.due("two parts of the greatest sum", x.mix(2, 3125, 4096, 0, 1, 1, 3), true);
+        hasCells(x, 3, 1, 78125000);
     }
 
     private static void products() {
@@ -451,6 +469,13 @@ public final class PromisesTest {
         CHECK.due("widest 0", x.widest(0), 0);
         Check.tell(x, 0, "1 1 1 1 1 1 1 1;".repeat(8));
         CHECK.due("all choices", x.ways(0, 1), 40320);
+        // The last two rows have the first two columns alone, so very many beginnings lead nowhere.
+        Check.tell(x, 0, "1 1 1 1 1 1 1 1;".repeat(6) + "1 1 0 0 0 0 0 0;".repeat(2));
+        for (int row = 0; row < 8; row++) {
+            CHECK.due("paired(0, 1, " + row + ")", x.paired(0, 1, row), (row + 2) % 8);
+        }
+        Check.tell(x, 0, "1 1 1 1 1 1 1 1;".repeat(5) + "1 1 0 0 0 0 0 0;".repeat(3));
+        CHECK.due("none", x.paired(0, 1, 0), NONE);
     }
 
     private static void bestChoices() {

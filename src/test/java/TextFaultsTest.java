@@ -11,6 +11,7 @@ public final class TextFaultsTest {
         ragged();
         notSquare();
         tooGreat();
+        behindTheEnd();
         CHECK.finish("TextFaultsTest");
     }
 
@@ -128,10 +129,45 @@ public final class TextFaultsTest {
         due("1/999999 1/999998;1 1;", 6, 22);
         due("1/1000 1/1001;0 0; ", 6, 19);
         due("999999/1 1/101;0 0;", 6, 19);
+        due("990100 1/101;0 0;", 6, 17);
+        due("990099 1/101;0 0;", 0, -1);
+        due("1 1;1/1000 1/1001;", 6, 18);
+        due("1/999999 1;1 1/2;", 6, 17);
         due("999999/1 0/101;0 0;", 0, -1);
         due("999999/1 101/101;0 0;", 0, -1);
         due("1/1000 1/999;0 0;", 0, -1);
         due("1/999 1/1001;0 0;", 0, -1);
         due("1/1000 1/1000;0 1/3;", 0, -1);
+    }
+
+    /** Bytes that stood behind the end once are no part of the text, and a text may fill the tape. */
+    private static void behindTheEnd() {
+        String[] cut = {"1;", "12;", "1/2;", "1;2;", "1 /2;", "x;"};
+        int[][] dues = {{1, 1, 1}, {1, 1, 1}, {1, 1, 1}, {2, 0, -1}, {2, 1, 2}, {0, 0, -1}};
+        for (int i = 0; i < cut.length; i++) {
+            EvenTables x = new EvenTables();
+            CHECK.in("\"" + cut[i] + "\", cut");
+            Check.write(x, cut[i]);
+            CHECK.due("end", x.end(dues[i][0]), true);
+            x.table(0);
+            CHECK.due("fault(0)", x.fault(0), dues[i][1]);
+            CHECK.due("fault(1)", x.fault(1), dues[i][2]);
+        }
+        due(" ".repeat(598) + "1;", 0, -1);
+        due(" ".repeat(599) + "1", 1, 600);
+        due(" ".repeat(598) + "1/", 1, 600);
+        due(" ".repeat(597) + "1/2", 1, 600);
+        due("1;" + " ".repeat(598), 0, -1);
+        due("1" + " ".repeat(599), 1, 600);
+        due("1/" + " ".repeat(598), 1, 600);
+        due("1".repeat(600), 1, 0);
+        due(" ".repeat(599) + ";", 5, 600);
+        due(" ".repeat(597) + "1;x", 1, 599);
+        // What an earlier, longer text left on the tape doesn't count either.
+        EvenTables x = new EvenTables();
+        CHECK.in("texts one after the other");
+        Check.tell(x, 0, "1 2;3 4;/2 5;6 7;8 9;;;;;;;;;");
+        CHECK.due("table(0)", Check.tell(x, 0, "5;"), 1);
+        CHECK.due("cell(0, 0, 0)", x.cell(0, 0, 0), 5);
     }
 }
