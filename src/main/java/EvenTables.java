@@ -538,7 +538,7 @@ public final class EvenTables {
 
         void settle(int newN, int newBelow) {
             n = newN;
-            below = newBelow;
+            below = Math.max(1, newBelow);
             roundingKnown = false;
             seekingKnown = false;
             boolean even = n > 0 && firstUneven() == NONE && sumOfRow(0) > 0;
