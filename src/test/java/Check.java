@@ -48,6 +48,9 @@ final class Check {
 
     /** Puts a text of up to 600 bytes alone on the tape. */
     static void write(EvenTables x, String text) {
+        if (text.length() > 600) {
+            throw new IllegalArgumentException("a test's text does not fit on the tape: " + text);
+        }
         x.end(0);
         for (int from = 0; from < text.length(); from += 20) {
             int[] f = fed(text, from);

@@ -6,7 +6,7 @@ public final class GreatNumbersTest {
     private static final Random RANDOM = new Random(77);
 
     public static void main(String[] args) {
-        for (int round = 0; round < 150; round++) {
+        for (int round = 0; round < 600; round++) {
             CHECK.in("round " + round);
             one(1 + RANDOM.nextInt(4));
         }
@@ -37,10 +37,9 @@ public final class GreatNumbersTest {
         CHECK.due("best(0, 10)", x.best(0, 10), plain.best(0, 10));
         CHECK.due("permanent(0)", x.permanent(0), plain.permanent(0));
         CHECK.due("widest(0)", x.widest(0), plain.widest(0));
-        for (int rule = 0; rule < 4; rule++) {
-            CHECK.due("shop(0, " + rule + ")", x.shop(0, rule), plain.shop(0, rule));
-            kept(x, plain);
-        }
+        int rule = RANDOM.nextInt(4);
+        CHECK.due("shop(0, " + rule + ")", x.shop(0, rule), plain.shop(0, rule));
+        kept(x, plain);
         int down = 1 + RANDOM.nextInt(9999);
         CHECK.due("mix", x.mix(0, down, 9999, 0, 1, down, 1), plain.mix(0, down, 9999, 0, 1, down, 1));
         CHECK.due("mix", x.mix(0, 1, 9973, 0, 0, 1, 2), plain.mix(0, 1, 9973, 0, 0, 1, 2));
@@ -63,8 +62,10 @@ public final class GreatNumbersTest {
 
     private static void kept(EvenTables x, Plain plain) {
         CHECK.due("kept(2)", x.kept(2), plain.kept(2));
-        CHECK.due("show()", x.show(), plain.show());
-        for (int i = 0; i <= x.show(); i++) {
+        int length = plain.show();
+        CHECK.due("show()", x.show(), length);
+        // A few bytes at each end: an object answers 512 calls, and no more are due.
+        for (int i = 0; i <= length; i += i == 60 && length > 120 ? length - 120 : 1) {
             CHECK.due("out(" + i + ")", x.out(i), plain.out(i));
         }
         for (int job = 0; job < 4; job++) {

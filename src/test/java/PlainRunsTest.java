@@ -1,13 +1,15 @@
 import java.util.Random;
 
-/** Runs of 512 calls each, by numbers that are the same every time, compared with the plain program call by call. */
+/** Runs of up to 512 calls, by numbers that are the same every time, compared with the plain program call by call. */
 public final class PlainRunsTest {
     private static final Check CHECK = new Check();
+    private static final int MOST_OF_A_STEP = 40;
 
     private final Random random;
     private final EvenTables x = new EvenTables();
     private final Plain plain = new Plain();
     private final int mostN;
+    private int calls = 0;
 
     private PlainRunsTest(long seed, int mostN) {
         random = new Random(seed);
@@ -15,7 +17,7 @@ public final class PlainRunsTest {
     }
 
     public static void main(String[] args) {
-        int runs = args.length > 0 ? Integer.parseInt(args[0]) : 150;
+        int runs = args.length > 0 ? Integer.parseInt(args[0]) : 400;
         for (int run = 0; run < runs && !CHECK.failed(); run++) {
             // The plain program lists all choices, so great tables come seldom.
             int mostN = run % 25 == 0 ? 8 : run % 5 == 0 ? 6 : run % 2 == 0 ? 4 : 3;
@@ -24,34 +26,40 @@ public final class PlainRunsTest {
         CHECK.finish("PlainRunsTest");
     }
 
+    /** What later calls than the 512th answer is free, so a run ends where one more step could go beyond. */
     private void go(int run) {
-        int tables = 0;
-        for (int call = 0; call < 512 && !CHECK.failed(); call++) {
-            CHECK.in("run " + run + ", call " + call);
-            if (call % 40 == 0 || call < 12 && call % 3 == 0) {
-                call += tell(text());
-                tables++;
+        for (int step = 0; calls <= 512 - MOST_OF_A_STEP && !CHECK.failed(); step++) {
+            CHECK.in("run " + run + ", step " + step);
+            if (step % 30 == 0 || step < 12 && step % 3 == 0) {
+                tell(text());
             } else {
                 one();
             }
         }
     }
 
-    private int tell(String text) {
-        int calls = 2;
+    private void due(String call, long got, long want) {
+        calls++;
+        CHECK.due(call, got, want);
+    }
+
+    private void due(String call, boolean got, boolean want) {
+        calls++;
+        CHECK.due(call, got, want);
+    }
+
+    private void tell(String text) {
         for (int from = 0; from < text.length(); from += 20) {
             int[] f = Check.fed(text, from);
-            CHECK.due("feed", x.feed(f[0], f[1], f[2], f[3], f[4]), plain.feed(f));
-            calls++;
+            due("feed", x.feed(f[0], f[1], f[2], f[3], f[4]), plain.feed(f));
         }
         int tapeLength = plain.kept(4);
         int padding = (20 - text.length() % 20) % 20;
-        CHECK.due("end", x.end(tapeLength - padding), plain.end(tapeLength - padding));
+        due("end", x.end(tapeLength - padding), plain.end(tapeLength - padding));
         int slot = below(4);
-        CHECK.due("table(" + slot + ") of " + text, x.table(slot), plain.table(slot));
-        CHECK.due("fault(0) of " + text, x.fault(0), plain.fault(0));
-        CHECK.due("fault(1) of " + text, x.fault(1), plain.fault(1));
-        return calls;
+        due("table(" + slot + ") of " + text, x.table(slot), plain.table(slot));
+        due("fault(0) of " + text, x.fault(0), plain.fault(0));
+        due("fault(1) of " + text, x.fault(1), plain.fault(1));
     }
 
     private int below(int bound) {
@@ -139,6 +147,7 @@ public final class PlainRunsTest {
         if (kind == 1) {
             return below(2) == 0 ? 99999999 : 100000000;
         }
+        calls++;
         int cell = x.cell(slot, below(8), below(8));
         return cell < 0 ? below(20) : cell + below(2);
     }
@@ -165,19 +174,19 @@ public final class PlainRunsTest {
         int b = around(8);
         switch (kind) {
             case 0:
-                CHECK.due("look " + s + " " + a, x.look(s, a), plain.look(s, a));
+                due("look " + s + " " + a, x.look(s, a), plain.look(s, a));
                 break;
             case 1:
             case 2:
                 for (int what = 0; what < 6; what++) {
-                    CHECK.due("look " + s + " " + what, x.look(s, what), plain.look(s, what));
+                    due("look " + s + " " + what, x.look(s, what), plain.look(s, what));
                 }
                 break;
             case 3:
-                CHECK.due("cell " + s + " " + a + " " + b, x.cell(s, a, b), plain.cell(s, a, b));
+                due("cell " + s + " " + a + " " + b, x.cell(s, a, b), plain.cell(s, a, b));
                 break;
             case 4:
-                CHECK.due("uneven " + s, x.uneven(s), plain.uneven(s));
+                due("uneven " + s, x.uneven(s), plain.uneven(s));
                 break;
             case 5:
             case 6:
@@ -187,15 +196,15 @@ public final class PlainRunsTest {
             case 8:
                 int other = around(4);
                 int into = around(4);
-                CHECK.due("times " + s + " " + other + " " + into, x.times(s, other, into), plain.times(s, other, into));
-                sameCells();
+                due("times " + s + " " + other + " " + into, x.times(s, other, into), plain.times(s, other, into));
+                sameCells(into);
                 break;
             case 9:
             case 10:
                 int how = around(6);
                 int to = around(4);
-                CHECK.due("turn " + s + " " + how + " " + a, x.turn(s, how, a, to), plain.turn(s, how, a, to));
-                sameCells();
+                due("turn " + s + " " + how + " " + a, x.turn(s, how, a, to), plain.turn(s, how, a, to));
+                sameCells(to);
                 break;
             default:
                 wildTape();
@@ -208,28 +217,28 @@ public final class PlainRunsTest {
         int q = share();
         int u = share();
         int v = share();
-        CHECK.due("mix " + s + " " + p + "/" + q + " " + other + " " + u + "/" + v + " " + into,
+        due("mix " + s + " " + p + "/" + q + " " + other + " " + u + "/" + v + " " + into,
                 x.mix(s, p, q, other, u, v, into), plain.mix(s, p, q, other, u, v, into));
-        sameCells();
+        sameCells(into);
     }
 
-    private void sameCells() {
-        for (int slot = 0; slot < 4; slot++) {
-            CHECK.due("below of " + slot, x.look(slot, 1), plain.look(slot, 1));
-            for (int i = 0; i < 8; i++) {
-                for (int j = 0; j < 8; j++) {
-                    CHECK.due("cell " + slot + " " + i + " " + j, x.cell(slot, i, j), plain.cell(slot, i, j));
-                }
-            }
+    private void sameCells(int slot) {
+        due("below of " + slot, x.look(slot, 1), plain.look(slot, 1));
+        due("margin of " + slot, x.look(slot, 2), plain.look(slot, 2));
+        int n = Math.max(1, plain.look(slot, 0));
+        for (int i = 0; i < 9; i++) {
+            int row = below(n);
+            int column = below(n);
+            due("cell " + slot + " " + row + " " + column, x.cell(slot, row, column), plain.cell(slot, row, column));
         }
     }
 
     private void wildTape() {
         int[] f = {random.nextInt(), random.nextInt(), random.nextInt(), random.nextInt(), random.nextInt()};
-        CHECK.due("feed", x.feed(f[0], f[1], f[2], f[3], f[4]), plain.feed(f));
+        due("feed", x.feed(f[0], f[1], f[2], f[3], f[4]), plain.feed(f));
         int count = below(3) == 0 ? around(620) : 0;
-        CHECK.due("end " + count, x.end(count), plain.end(count));
-        CHECK.due("kept 4", x.kept(4), plain.kept(4));
+        due("end " + count, x.end(count), plain.end(count));
+        due("kept 4", x.kept(4), plain.kept(4));
     }
 
     private void ofPairings(int kind) {
@@ -240,43 +249,43 @@ public final class PlainRunsTest {
         switch (kind) {
             case 12:
                 int w = around(2);
-                CHECK.due("bound " + s + " " + w, x.bound(s, w), plain.bound(s, w));
+                due("bound " + s + " " + w, x.bound(s, w), plain.bound(s, w));
                 break;
             case 13:
             case 14:
                 int what = around(3);
-                CHECK.due("lack " + s + " " + l + " " + what, x.lack(s, l, what), plain.lack(s, l, what));
+                due("lack " + s + " " + l + " " + what, x.lack(s, l, what), plain.lack(s, l, what));
                 break;
             case 15:
-                CHECK.due("paired " + s + " " + l + " " + a, x.paired(s, l, a), plain.paired(s, l, a));
+                due("paired " + s + " " + l + " " + a, x.paired(s, l, a), plain.paired(s, l, a));
                 break;
             case 16:
-                CHECK.due("ways " + s + " " + l, x.ways(s, l), plain.ways(s, l));
+                due("ways " + s + " " + l, x.ways(s, l), plain.ways(s, l));
                 break;
             case 17:
-                CHECK.due("widest " + s, x.widest(s), plain.widest(s));
+                due("widest " + s, x.widest(s), plain.widest(s));
                 break;
             case 18:
                 int of = below(2) == 0 ? around(2) : 10 + around(8);
-                CHECK.due("best " + s + " " + of, x.best(s, of), plain.best(s, of));
+                due("best " + s + " " + of, x.best(s, of), plain.best(s, of));
                 break;
             case 19:
-                CHECK.due("permanent " + s, x.permanent(s), plain.permanent(s));
+                due("permanent " + s, x.permanent(s), plain.permanent(s));
                 break;
             case 20:
                 if (below(3) == 0) {
                     int i = around(5);
-                    CHECK.due("sought " + s + " " + i, x.sought(s, i), plain.sought(s, i));
+                    due("sought " + s + " " + i, x.sought(s, i), plain.sought(s, i));
                 }
                 break;
             case 21:
-                CHECK.due("rounded " + s + " " + a + " " + b, x.rounded(s, a, b), plain.rounded(s, a, b));
+                due("rounded " + s + " " + a + " " + b, x.rounded(s, a, b), plain.rounded(s, a, b));
                 break;
             case 22:
-                CHECK.due("mixing " + s, x.mixing(s), plain.mixing(s));
+                due("mixing " + s, x.mixing(s), plain.mixing(s));
                 break;
             default:
-                CHECK.due("kin " + s + " " + a, x.kin(s, a), plain.kin(s, a));
+                due("kin " + s + " " + a, x.kin(s, a), plain.kin(s, a));
                 break;
         }
     }
@@ -289,28 +298,28 @@ public final class PlainRunsTest {
             case 24:
                 int s = around(4);
                 int rule = around(4);
-                CHECK.due("peel " + s + " " + rule, x.peel(s, rule), plain.peel(s, rule));
+                due("peel " + s + " " + rule, x.peel(s, rule), plain.peel(s, rule));
                 break;
             case 25:
                 int from = around(4);
                 int by = around(4);
-                CHECK.due("shop " + from + " " + by, x.shop(from, by), plain.shop(from, by));
+                due("shop " + from + " " + by, x.shop(from, by), plain.shop(from, by));
                 break;
             case 26:
-                CHECK.due("part " + k + " " + a, x.part(k, a), plain.part(k, a));
+                due("part " + k + " " + a, x.part(k, a), plain.part(k, a));
                 break;
             case 27:
-                CHECK.due("weight " + k + " " + what, x.weight(k, what), plain.weight(k, what));
+                due("weight " + k + " " + what, x.weight(k, what), plain.weight(k, what));
                 break;
             case 28:
                 int r = around(Math.max(1, plain.kept(2)));
-                CHECK.due("draw " + r, x.draw(r), plain.draw(r));
+                due("draw " + r, x.draw(r), plain.draw(r));
                 break;
             case 29:
                 jointed(a);
                 break;
             case 30:
-                CHECK.due("most " + a + " " + what, x.most(a, what), plain.most(a, what));
+                due("most " + a + " " + what, x.most(a, what), plain.most(a, what));
                 break;
             case 31:
                 shownAll();
@@ -318,30 +327,32 @@ public final class PlainRunsTest {
             case 32:
                 int t = around(Math.max(1, plain.kept(2)));
                 int job = around(4);
-                CHECK.due("works " + job + " " + t, x.works(job, t), plain.works(job, t));
-                CHECK.due("job " + job + " " + what, x.job(job, what), plain.job(job, what));
+                due("works " + job + " " + t, x.works(job, t), plain.works(job, t));
+                due("job " + job + " " + what, x.job(job, what), plain.job(job, what));
                 break;
             default:
                 int of = around(5);
-                CHECK.due("kept " + of, x.kept(of), plain.kept(of));
+                due("kept " + of, x.kept(of), plain.kept(of));
                 break;
         }
     }
 
     private void jointed(int i) {
+        calls += 2;
         int k = around(8);
         int j = below(2) == 0 ? x.part(0, i) : around(8);
         int l = below(2) == 0 ? x.part(0, k) : around(8);
         int what = around(2);
-        CHECK.due("joint " + i + " " + j + " " + k + " " + l + " " + what, x.joint(i, j, k, l, what),
+        due("joint " + i + " " + j + " " + k + " " + l + " " + what, x.joint(i, j, k, l, what),
                 plain.joint(i, j, k, l, what));
     }
 
     private void shownAll() {
         int length = plain.show();
-        CHECK.due("show", x.show(), length);
-        for (int i = -1; i <= length; i++) {
-            CHECK.due("out " + i, x.out(i), plain.out(i));
+        due("show", x.show(), length);
+        for (int i = 0; i < 12; i++) {
+            int at = below(2) == 0 ? around(length + 1) : length - below(12);
+            due("out " + at, x.out(at), plain.out(at));
         }
     }
 }
