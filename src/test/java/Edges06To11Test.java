@@ -101,7 +101,8 @@ public final class Edges06To11Test {
             EDGES.due("look(" + slot + ", 4)", x.look(slot, 4), due[slot]);
         }
         EDGES.due("99999999", one(MOST).look(0, 4), MOST);
-        Check.tell(x, 0, Edges.slope(8, "9", "1"));
+        Check.tell(x, 0, Edges.slope(8, "1", "9"));
+        EDGES.due("of eight rows", x.look(0, 4), 9);
         Check.tell(x, 0, "2;");
         EDGES.due("none of the table that was there", x.look(0, 4), 2);
     }
@@ -366,6 +367,11 @@ public final class Edges06To11Test {
         EDGES.due("far beyond", x.mix(0, 9999, 1, 1, 0, 1000, 2), false);
         EDGES.due("far beyond, the other way", x.mix(1, 0, 1000, 0, 9999, 1, 2), false);
         EDGES.due("both far beyond", x.mix(0, 9999, 1, 0, 9999, 1, 2), false);
+        // One cell alone is far beyond, behind one that could be made.
+        Great.tell(x, 0, new long[][] {{0, MOST}, {0, 0}});
+        Check.tell(x, 1, "1/999983 0;0 0;");
+        EDGES.due("one cell far beyond", x.mix(0, 9999, 1, 1, 1, 1, 2), false);
+        EDGES.due("one cell far beyond, the other way", x.mix(1, 1, 1, 0, 9999, 1, 2), false);
     }
 
     private static void mixedOfNone() {

@@ -15,6 +15,7 @@ public final class Edges12To17Test {
         greatestTogether();
         asLongAsCellsAreAbove0();
         fullOnes();
+        allCallsOfAnObject();
         keptTillTheNext();
         notPeeled();
         partsOfRows();
@@ -131,6 +132,17 @@ public final class Edges12To17Test {
                 EDGES.due("left of cell " + i, left[i], 0);
             }
         }
+    }
+
+    private static void allCallsOfAnObject() {
+        EDGES.sentence("what it is", "An object is used for at most 512 calls after it has been made");
+        EvenTables x = EDGES.with(FULL);
+        // 15 feeds, two times end() and table() were the first 18.
+        int[] due = {50, 35, 50, 40};
+        for (int call = 19; call <= 511; call++) {
+            EDGES.due("call " + call + ", peel", x.peel(0, call % 4), due[call % 4]);
+        }
+        EDGES.due("call 512, kept(1)", x.kept(1), 40);
     }
 
     private static void keptTillTheNext() {

@@ -61,6 +61,12 @@ public final class Edges24To28Test {
         sought("7 14 0 2;3 2 11 7;7 4 3 9;6 3 9 5;", 7, 0, 1, 1, 2);
         sought("3 2 5 5;3 5 2 5;9 0 3 3;0 8 5 2;", 6, 1, 1, 1, 1);
         sought("4 4 3 3;2 4 6 2;5 3 2 4;3 3 3 5;", 6, 2, 3, 0, 1);
+        sought("4 2 4 2;0 4 4 4;6 4 0 2;2 2 4 4;", 4, 3, 1, 0, 0);
+        sought("9 6 3 9;6 12 5 4;8 5 14 0;4 4 5 14;", 7, 0, 3, 2, 1);
+        sought("12 6 2 6;0 6 7 13;2 7 12 5;12 7 5 2;", 7, 0, 3, 3, 0);
+        sought("7 5 10 3;10 3 6 6;8 6 6 5;0 11 3 11;", 6, 1, 3, 1, 0);
+        sought("6 6 3 6;5 11 0 5;9 0 10 2;1 4 8 8;", 6, 2, 2, 1, 1);
+        sought("2 9 11 2;13 0 3 8;9 6 4 5;0 9 6 9;", 6, 3, 1, 1, 1);
     }
 
     private static void soughtAgain() {
@@ -147,6 +153,11 @@ public final class Edges24To28Test {
         // Column 0 comes to 1: what row 0 leaves of it, row 1 has to take.
         rounded("2/3 0 0;1/3 1/3 0;0 0 1/3;", "0 0 0", "1 0 0", "0 0 0");
         rounded("1/2 1/3 1/6;1/3 1/3 1/3;1/6 1/3 1/2;", "0 0 1", "0 1 0", "1 0 0");
+        // One row alone, then one column alone comes to a whole number.
+        rounded("0 1/3 0;2/3 0 1/3;0 1/3 0;", "0 0 0", "0 0 1", "0 0 0");
+        rounded("1/2 1/2 0;0 1/2 1/2;0 0 1/2;", "0 1 0", "0 0 1", "0 0 0");
+        rounded("0 0 1/3;2/3 0 0;1/3 0 1/3;", "0 0 0", "0 0 0", "1 0 0");
+        rounded("0 2/3 0;0 2/3 0;2/3 2/3 0;", "0 0 0", "0 1 0", "0 1 0");
     }
 
     private static void roundedFirst() {
@@ -191,6 +202,15 @@ public final class Edges24To28Test {
         x.turn(1, 0, 0, 0);
         EDGES.due("another table: rounded(0, 1, 0)", x.rounded(0, 1, 0), 0);
         EDGES.due("another table: rounded(0, 1, 1)", x.rounded(0, 1, 1), 1);
+        // Nothing is left of what was rounded: not of cells that were one more, nor of rows and columns that are gone.
+        Check.tell(x, 0, "1/2 1/2;1/2 1/2;");
+        rounded(x, "halves", "0 1", "1 0");
+        Check.tell(x, 0, "3 4;5 6;");
+        rounded(x, "whole numbers", "3 4", "5 6");
+        Check.tell(x, 0, Edges.slope(8, "1/2", "1/2"));
+        EDGES.due("of eight: rounded(0, 0, 7)", x.rounded(0, 0, 7), 1);
+        Check.tell(x, 0, "1/2 1/2;0 0;");
+        rounded(x, "two halves", "0 1", "0 0");
     }
 
     private static void noSuchRounded() {

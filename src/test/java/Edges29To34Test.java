@@ -146,6 +146,14 @@ public final class Edges29To34Test {
         shop("1 1;0 2;", 0, 3, "1:0123;1:1302;1:2103;");
         shop("0 0 0;1 3 0;2 0 1;", 0, 4, "1:302415;2:310542;1:315042;");
         shop("2 0 0;1 3 0;0 2 1;", 0, 5, "1:012345;1:015342;1:301452;1:315042;1:341052;");
+        // Nothing is left of tables that were in the slot, or were peeled.
+        EvenTables x = EDGES.with(Edges.slope(8, "9", "9"));
+        x.peel(0, 0);
+        Check.tell(x, 0, "5 0;0 5;");
+        x.peel(0, 0);
+        EDGES.due("shop(0, 3)", x.shop(0, 3), 1);
+        EDGES.due("its pieces", Edges.shown(x), "5:0123;");
+        EDGES.due("LENGTH", x.kept(2), 5);
     }
 
     private static void shopsByRules() {
