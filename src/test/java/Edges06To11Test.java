@@ -472,6 +472,14 @@ public final class Edges06To11Test {
         EDGES.due("slot 3", Edges.slot(x, 3), "1 over 1: 1");
         EDGES.due("times 0", x.times(0, 2, 3), true);
         EDGES.due("slot 3", Edges.slot(x, 3), "1 over 1: 0");
+        // mix() has bounds on the way, y and v are told in them; times() has none.
+        Check.tell(x, 0, "999999/999998;");
+        Check.tell(x, 1, "999998/999999;");
+        EDGES.due("999997000002 over itself", x.times(0, 1, 3), true);
+        EDGES.due("slot 3", Edges.slot(x, 3), "1 over 1: 1");
+        EDGES.due("99 times it, 97 times it", x.mix(0, 99, 1, 0, 0, 1, 0) && x.mix(1, 97, 1, 1, 0, 1, 1), true);
+        EDGES.due("9602971191019206 over 999997000002", x.times(0, 1, 3), true);
+        EDGES.due("slot 3", Edges.slot(x, 3), "1 over 1: 9603");
         // 99999999 in all cells times 1 over 999999 in all: a sum beyond the ints.
         Check.tell(x, 0, Edges.slope(8, "999999", "999999"));
         Check.tell(x, 1, Edges.slope(8, "99", "99"));
