@@ -13,8 +13,6 @@ import java.util.Set;
 import java.util.regex.Matcher;
 import java.util.regex.Pattern;
 import java.util.stream.Stream;
-import javax.tools.JavaCompiler;
-import javax.tools.ToolProvider;
 
 /**
  * The runs of calls that README.md shows. They are compiled as they stand there, each a method of one class, and each
@@ -36,7 +34,7 @@ public final class ReadmeTest {
     private int runCount = 0;
     private int answerCount = 0;
 
-    public static void main(String[] args) throws IOException, ReflectiveOperationException {
+    public static void main(String[] args) throws IOException, InterruptedException, ReflectiveOperationException {
         CHECK.in("README.md");
         List<String> lines = Files.readAllLines(README);
         ReadmeTest test = new ReadmeTest();
@@ -147,15 +145,14 @@ public final class ReadmeTest {
         return text.append("return WRONG;\n}\n}\n").toString();
     }
 
-    private void compileAndRun() throws IOException, ReflectiveOperationException {
+    private void compileAndRun() throws IOException, InterruptedException, ReflectiveOperationException {
         Path folder = Files.createTempDirectory("readme");
         try {
             Path file = folder.resolve(RUNS + ".java");
             Files.writeString(file, source());
-            JavaCompiler compiler = ToolProvider.getSystemJavaCompiler();
-            int code = compiler.run(null, System.out, System.out, "-Xlint:all", "-Werror", "-cp",
-                    System.getProperty("java.class.path"), "-d", folder.toString(), file.toString());
-            if (code != 0) {
+            Process javac = new ProcessBuilder("javac", "-Xlint:all", "-Werror", "-cp", System.getProperty("java.class.path"),
+                    "-d", folder.toString(), file.toString()).inheritIO().start();
+            if (javac.waitFor() != 0) {
                 CHECK.fail("what it shows does not compile");
                 return;
             }
